@@ -199,7 +199,7 @@ public final class BagCarousel {
 
     public int bagsIn(int chute) throws IndexOutOfBoundsException {
         needChute(chute);
-        return hall.bags.countInChute(chute);
+        return hall.bags.chute.count(chute);
     }
 
     public int misroutedIn(int chute) throws IndexOutOfBoundsException {
@@ -245,23 +245,23 @@ public final class BagCarousel {
     }
 
     public int inLine() {
-        return hall.bags.countWhere(IN_LINE);
+        return hall.bags.where.count(IN_LINE);
     }
 
     public int onBelt() {
-        return hall.bags.countWhere(ON_BELT);
+        return hall.bags.where.count(ON_BELT);
     }
 
     public int atDesk() {
-        return hall.bags.countWhere(AT_DESK);
+        return hall.bags.where.count(AT_DESK);
     }
 
     public int openFiles() {
-        return hall.bags.countFiles(OPEN_FILE);
+        return hall.bags.file.count(OPEN_FILE);
     }
 
     public int closedFiles() {
-        return hall.bags.countFiles(CLOSED_FILE);
+        return hall.bags.file.count(CLOSED_FILE);
     }
 
     public int reader() {
@@ -307,7 +307,7 @@ public final class BagCarousel {
 
     public double meanMisses() {
         int count = hall.bags.count;
-        return count > 0 ? (double) hall.bags.sumMisses() / count : 0.0;
+        return count > 0 ? (double) hall.bags.misses.sum() / count : 0.0;
     }
 
     public long digest() {
@@ -330,11 +330,11 @@ public final class BagCarousel {
         long sum = addNumber(start, hall.minutesGone);
         sum = addNumber(sum, hall.flights.count);
         sum = addNumber(sum, hall.bags.count);
-        sum = addNumber(sum, hall.bags.countWhere(IN_LINE));
-        sum = addNumber(sum, hall.bags.countWhere(ON_BELT));
-        sum = addNumber(sum, hall.bags.countWhere(AT_DESK));
-        sum = addNumber(sum, hall.bags.countFiles(OPEN_FILE));
-        sum = addNumber(sum, hall.bags.countFiles(CLOSED_FILE));
+        sum = addNumber(sum, hall.bags.where.count(IN_LINE));
+        sum = addNumber(sum, hall.bags.where.count(ON_BELT));
+        sum = addNumber(sum, hall.bags.where.count(AT_DESK));
+        sum = addNumber(sum, hall.bags.file.count(OPEN_FILE));
+        sum = addNumber(sum, hall.bags.file.count(CLOSED_FILE));
         return addNumber(sum, hall.strength);
     }
 
@@ -350,7 +350,7 @@ public final class BagCarousel {
     }
 
     private long addChute(long start, int chute) {
-        long sum = addNumber(start, hall.bags.countInChute(chute));
+        long sum = addNumber(start, hall.bags.chute.count(chute));
         sum = addNumber(sum, hall.countMisrouted(chute));
         return addNumber(sum, hall.rooms.at(chute));
     }
@@ -458,6 +458,24 @@ public final class BagCarousel {
             return front;
         }
 
+        int count(int value) {
+            int found = 0;
+            for (int cell : cells) {
+                if (cell == value) {
+                    found++;
+                }
+            }
+            return found;
+        }
+
+        int sum() {
+            int sum = 0;
+            for (int cell : cells) {
+                sum += cell;
+            }
+            return sum;
+        }
+
         int find(int value) {
             for (int index = 0; index < cells.length; index++) {
                 if (cells[index] == value) {
@@ -491,7 +509,7 @@ public final class BagCarousel {
         }
     }
 
-    /** The bags, by their numbers. */
+    /** The bags, by their numbers; a number that no bag has yet holds nothing that is counted. */
     private static final class Bags {
         int count;
         final Row flight = new Row(new int[MOST_BAGS], NONE);
@@ -534,44 +552,6 @@ public final class BagCarousel {
             if (file.at(bag) == OPEN_FILE) {
                 file.put(bag, CLOSED_FILE);
             }
-        }
-
-        int countWhere(int place) {
-            int found = 0;
-            for (int bag = 0; bag < count; bag++) {
-                if (where.at(bag) == place) {
-                    found++;
-                }
-            }
-            return found;
-        }
-
-        int countFiles(int state) {
-            int found = 0;
-            for (int bag = 0; bag < count; bag++) {
-                if (file.at(bag) == state) {
-                    found++;
-                }
-            }
-            return found;
-        }
-
-        int countInChute(int itsChute) {
-            int found = 0;
-            for (int bag = 0; bag < count; bag++) {
-                if (chute.at(bag) == itsChute) {
-                    found++;
-                }
-            }
-            return found;
-        }
-
-        int sumMisses() {
-            int sum = 0;
-            for (int bag = 0; bag < count; bag++) {
-                sum += misses.at(bag);
-            }
-            return sum;
         }
 
         void takeAll(Bags other) {
@@ -727,7 +707,7 @@ public final class BagCarousel {
         // ---- what there is
 
         boolean hasRoom(int chute) {
-            return bags.countInChute(chute) < rooms.at(chute);
+            return bags.chute.count(chute) < rooms.at(chute);
         }
 
         int findOnBelt(int bag) {
@@ -770,13 +750,7 @@ public final class BagCarousel {
         }
 
         int countMissing(int flight) {
-            int found = 0;
-            for (int bag = 0; bag < bags.count; bag++) {
-                if (bags.flight.at(bag) == flight && !isReady(bag)) {
-                    found++;
-                }
-            }
-            return found;
+            return bags.flight.count(flight) - countReady(flight);
         }
     }
 }

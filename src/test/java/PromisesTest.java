@@ -856,7 +856,29 @@ public final class PromisesTest {
         hall.setRoom(3, 1);
         int round = hall.checkIn(1, 1, 0);
         due("with no room", hall.minutesUntilChute(round), -1);
+        promise37Reader();
         promise37Farthest();
+    }
+
+    private static void promise37Reader() {
+        BagCarousel hall = hallWith(1);
+        int smudged = hall.checkIn(0, 1, 6);
+        due("minutesUntilChute of a smudged one", hall.minutesUntilChute(smudged), -1);
+        due("readyAfter with a smudged one", hall.readyAfter(0, 60), 0);
+        hall.setReader(6);
+        due("with a stronger reader", hall.minutesUntilChute(smudged), 7);
+        due("readyAfter with a stronger reader", hall.readyAfter(0, 7), 1);
+        hall.setReader(0);
+        hall.pass(15);
+        hall.setReader(9);
+        due("of one that was missed twice", hall.minutesUntilChute(smudged), 16);
+        hall.setReader(5);
+        hall.pass(12);
+        due("of one that came to the desk", hall.minutesUntilChute(smudged), -1);
+        hall.carry(smudged);
+        due("of one that was carried", hall.minutesUntilChute(smudged), 0);
+        hall.giveChute(0, 2);
+        due("of a misrouted one", hall.minutesUntilChute(smudged), 0);
     }
 
     private static void promise37Farthest() {
