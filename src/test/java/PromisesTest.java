@@ -1,15 +1,15 @@
 /** For each promise of the document what it says: ordinary calls, the edges, and wrong ones. */
 public final class PromisesTest {
-    private static final Class<IndexOutOfBoundsException> NO_SUCH = IndexOutOfBoundsException.class;
-    private static final Class<IllegalArgumentException> WRONG = IllegalArgumentException.class;
-    private static final Class<IllegalStateException> NOT_NOW = IllegalStateException.class;
+    private static final Class<IndexOutOfBoundsException> NO_SUCH = Check.NO_SUCH;
+    private static final Class<IllegalArgumentException> WRONG = Check.WRONG;
+    private static final Class<IllegalStateException> NOT_NOW = Check.NOT_NOW;
 
-    private static final int LINE = 0;
-    private static final int BELT = 1;
-    private static final int CHUTE = 2;
-    private static final int DESK = 3;
-    private static final int BIG_ROOM = 4;
-    private static final int LOADED = 5;
+    private static final int LINE = Halls.LINE;
+    private static final int BELT = Halls.BELT;
+    private static final int CHUTE = Halls.CHUTE;
+    private static final int DESK = Halls.DESK;
+    private static final int BIG_ROOM = Halls.BIG_ROOM;
+    private static final int LOADED = Halls.LOADED;
 
     private static final int[] NO_NUMBERS = {-1, Integer.MIN_VALUE, Integer.MAX_VALUE};
     private static final int[] NO_CHUTES = {-1, 4, 5, Integer.MIN_VALUE, Integer.MAX_VALUE};
@@ -56,34 +56,6 @@ public final class PromisesTest {
         Check.due(call, got, want);
     }
 
-    /** A hall with flights 0, 1, ..; the flight f has the f-th of these chutes, -1 for none. */
-    private static BagCarousel hallWith(int... chutes) {
-        BagCarousel hall = new BagCarousel();
-        for (int chute : chutes) {
-            int flight = hall.addFlight();
-            if (chute >= 0) {
-                hall.giveChute(flight, chute);
-            }
-        }
-        return hall;
-    }
-
-    /** Lets a bag with a tag that is easily read come into the chute of its flight. */
-    private static int bring(BagCarousel hall, int flight) {
-        int bag = hall.checkIn(flight, 1, 0);
-        hall.pass(11);
-        due("the bag that was brought is in its chute", hall.chuteOf(bag), hall.chuteOfFlight(flight));
-        return bag;
-    }
-
-    /** Lets a bag be missed three times. */
-    private static int bringToDesk(BagCarousel hall, int flight) {
-        int bag = hall.checkIn(flight, 1, 9);
-        hall.pass(27);
-        due("the bag that was missed is at the desk", hall.whereIs(bag), DESK);
-        return bag;
-    }
-
     private static void promise1() {
         BagCarousel hall = new BagCarousel();
         due("new minute", hall.minute(), 0);
@@ -104,7 +76,7 @@ public final class PromisesTest {
         for (int place = 0; place < 12; place++) {
             due("new bagAt " + place, hall.bagAt(place), -1);
         }
-        BagCarousel other = hallWith(1);
+        BagCarousel other = Halls.with(1);
         other.setReader(9);
         other.setRoom(2, 7);
         other.checkIn(0, 1, 1);
@@ -126,7 +98,7 @@ public final class PromisesTest {
     }
 
     private static void promise3() {
-        BagCarousel hall = hallWith(-1, -1);
+        BagCarousel hall = Halls.with(-1, -1);
         due("giveChute 0 0", hall.giveChute(0, 0), 0);
         due("giveChute 1 3", hall.giveChute(1, 3), 0);
         due("giveChute 1 0, which another has", hall.giveChute(1, 0), 0);
@@ -145,20 +117,20 @@ public final class PromisesTest {
     }
 
     private static void promise3ReadAndMisrouted() {
-        BagCarousel hall = hallWith(1, 1);
-        int first = bring(hall, 0);
-        bring(hall, 1);
+        BagCarousel hall = Halls.with(1, 1);
+        int first = Halls.bring(hall, 0);
+        Halls.bring(hall, 1);
         due("giveChute to the same chute", hall.giveChute(0, 1), 0);
         due("giveChute away from a bag", hall.giveChute(0, 0), 1);
         due("misrouted is only the bag of this flight", hall.misroutedIn(1), 1);
         due("giveChute, when the bag was misrouted before", hall.giveChute(0, 2), 0);
         hall.giveChute(0, 0);
-        int second = bring(hall, 0);
+        int second = Halls.bring(hall, 0);
         due("giveChute puts one right and misroutes one", hall.giveChute(0, 1), 1);
         due("the first is right again", hall.isMisrouted(first), false);
         due("the second is misrouted", hall.isMisrouted(second), true);
 
-        BagCarousel read = hallWith(0);
+        BagCarousel read = Halls.with(0);
         int bag = read.checkIn(0, 2, 2);
         read.pass(3);
         due("read for 0", read.readFor(bag), 0);
@@ -168,14 +140,14 @@ public final class PromisesTest {
         due("it comes into the chute for which it was read", read.chuteOf(bag), 0);
         due("and is misrouted", read.isMisrouted(bag), true);
 
-        BagCarousel loaded = hallWith(2, 2);
-        bring(loaded, 0);
+        BagCarousel loaded = Halls.with(2, 2);
+        Halls.bring(loaded, 0);
         loaded.depart(0);
         due("giveChute does not count loaded bags", loaded.giveChute(1, 0), 0);
     }
 
     private static void promise4() {
-        BagCarousel hall = hallWith(0);
+        BagCarousel hall = Halls.with(0);
         due("setReader 0", hall.setReader(0), 5);
         due("setReader 9", hall.setReader(9), 0);
         due("setReader 4", hall.setReader(4), 9);
@@ -194,7 +166,7 @@ public final class PromisesTest {
     }
 
     private static void promise5() {
-        BagCarousel hall = hallWith(0);
+        BagCarousel hall = Halls.with(0);
         due("setRoom 0 1", hall.setRoom(0, 1), 5);
         due("setRoom 0 20", hall.setRoom(0, 20), 1);
         due("setRoom 3 2", hall.setRoom(3, 2), 5);
@@ -207,8 +179,8 @@ public final class PromisesTest {
             Check.dueThrow(hall, "setRoom " + chute, NO_SUCH, () -> hall.setRoom(chute, 5));
             Check.dueThrow(hall, "setRoom " + chute + " 0", NO_SUCH, () -> hall.setRoom(chute, 0));
         }
-        bring(hall, 0);
-        bring(hall, 0);
+        Halls.bring(hall, 0);
+        Halls.bring(hall, 0);
         due("setRoom to less than there is", hall.setRoom(0, 1), 20);
         due("the bags stay", hall.bagsIn(0), 2);
         int late = hall.checkIn(0, 1, 0);
@@ -219,7 +191,7 @@ public final class PromisesTest {
     }
 
     private static void promise6() {
-        BagCarousel hall = hallWith(0, -1);
+        BagCarousel hall = Halls.with(0, -1);
         due("checkIn", hall.checkIn(0, 7, 0), 0);
         due("checkIn", hall.checkIn(1, 8, 9), 1);
         due("checkIn", hall.checkIn(1, 1, 9), 2);
@@ -255,7 +227,7 @@ public final class PromisesTest {
     }
 
     private static void promise6Full() {
-        BagCarousel hall = hallWith(0);
+        BagCarousel hall = Halls.with(0);
         for (int bag = 0; bag < 40; bag++) {
             due("checkIn", hall.checkIn(0, 1, 0), bag);
         }
@@ -271,21 +243,21 @@ public final class PromisesTest {
     }
 
     private static void promise7() {
-        BagCarousel hall = hallWith(2);
+        BagCarousel hall = Halls.with(2);
         int big = hall.checkIn(0, 9, 3);
         due("carry of a big one", hall.carry(big), 2);
         due("it is in a chute", hall.whereIs(big), CHUTE);
         due("in this one", hall.chuteOf(big), 2);
         due("it has not been read", hall.readFor(big), -1);
         due("it is not misrouted", hall.isMisrouted(big), false);
-        int missed = bringToDesk(hall, 0);
+        int missed = Halls.bringToDesk(hall, 0);
         due("carry from the desk", hall.carry(missed), 2);
         due("no one is at the desk", hall.atDesk(), 0);
         due("its misses stay", hall.missesOf(missed), 3);
         due("the bags are ready", hall.readyOf(0), 2);
 
-        BagCarousel swept = hallWith(1);
-        int bag = bring(swept, 0);
+        BagCarousel swept = Halls.with(1);
+        int bag = Halls.bring(swept, 0);
         swept.giveChute(0, 3);
         swept.sweep(1);
         due("carry of a swept one", swept.carry(bag), 3);
@@ -294,7 +266,7 @@ public final class PromisesTest {
     }
 
     private static void promise7Refused() {
-        BagCarousel hall = hallWith(0, -1);
+        BagCarousel hall = Halls.with(0, -1);
         Check.dueThrow(hall, "carry of no bag", NO_SUCH, () -> hall.carry(0));
         int line = hall.checkIn(0, 1, 0);
         Check.dueThrow(hall, "carry from the line", NOT_NOW, () -> hall.carry(line));
@@ -323,10 +295,10 @@ public final class PromisesTest {
     }
 
     private static void promise8() {
-        BagCarousel hall = hallWith(0, 1, 2);
-        int missed = bringToDesk(hall, 0);
+        BagCarousel hall = Halls.with(0, 1, 2);
+        int missed = Halls.bringToDesk(hall, 0);
         int big = hall.checkIn(0, 8, 0);
-        int swept = bring(hall, 0);
+        int swept = Halls.bring(hall, 0);
         hall.giveChute(0, 3);
         hall.sweep(0);
         hall.depart(0);
@@ -357,7 +329,7 @@ public final class PromisesTest {
     }
 
     private static void promise8Refused() {
-        BagCarousel hall = hallWith(0, 1, 2);
+        BagCarousel hall = Halls.with(0, 1, 2);
         int big = hall.checkIn(0, 8, 0);
         int line = hall.checkIn(0, 1, 9);
         Check.dueThrow(hall, "forward of a flight that is not gone", NOT_NOW, () -> hall.forward(big, 1));
@@ -371,7 +343,7 @@ public final class PromisesTest {
         hall.setReader(9);
         hall.pass(4);
         Check.dueThrow(hall, "forward from a chute", NOT_NOW, () -> hall.forward(line, 1));
-        int loaded = bring(hall, 1);
+        int loaded = Halls.bring(hall, 1);
         hall.addFlight();
         hall.depart(1);
         Check.dueThrow(hall, "forward of a loaded one", NOT_NOW, () -> hall.forward(loaded, 3));
@@ -387,9 +359,9 @@ public final class PromisesTest {
     }
 
     private static void promise9() {
-        BagCarousel hall = hallWith(0, 0, 0);
-        int moved = bring(hall, 0);
-        int right = bring(hall, 1);
+        BagCarousel hall = Halls.with(0, 0, 0);
+        int moved = Halls.bring(hall, 0);
+        int right = Halls.bring(hall, 1);
         int late = hall.checkIn(2, 1, 0);
         hall.pass(3);
         hall.depart(2);
@@ -415,10 +387,10 @@ public final class PromisesTest {
     }
 
     private static void promise10() {
-        BagCarousel hall = hallWith(0, 0, -1);
-        int first = bring(hall, 0);
-        int second = bring(hall, 0);
-        int other = bring(hall, 1);
+        BagCarousel hall = Halls.with(0, 0, -1);
+        int first = Halls.bring(hall, 0);
+        int second = Halls.bring(hall, 0);
+        int other = Halls.bring(hall, 1);
         due("depart", hall.depart(0), 2);
         due("it is gone", hall.isGone(0), true);
         due("the first is loaded", hall.whereIs(first), LOADED);
@@ -438,10 +410,10 @@ public final class PromisesTest {
     }
 
     private static void promise10Files() {
-        BagCarousel hall = hallWith(0, 3);
-        int strayed = bring(hall, 0);
+        BagCarousel hall = Halls.with(0, 3);
+        int strayed = Halls.bring(hall, 0);
         hall.giveChute(0, 1);
-        int desk = bringToDesk(hall, 0);
+        int desk = Halls.bringToDesk(hall, 0);
         int big = hall.checkIn(0, 8, 0);
         int belt = hall.checkIn(0, 1, 9);
         hall.pass(1);
@@ -463,7 +435,7 @@ public final class PromisesTest {
     }
 
     private static void promise11() {
-        BagCarousel hall = hallWith(0, 3);
+        BagCarousel hall = Halls.with(0, 3);
         int first = hall.checkIn(0, 1, 5);
         int second = hall.checkIn(1, 1, 0);
         due("pass 1", hall.pass(1), 0);
@@ -486,7 +458,7 @@ public final class PromisesTest {
         for (int minutes : NO_MINUTES) {
             Check.dueThrow(hall, "pass " + minutes, WRONG, () -> hall.pass(minutes));
         }
-        BagCarousel many = hallWith(1, 2);
+        BagCarousel many = Halls.with(1, 2);
         many.checkIn(1, 1, 0);
         many.pass(1);
         many.checkIn(0, 1, 0);
@@ -495,7 +467,7 @@ public final class PromisesTest {
     }
 
     private static void promise11Reader() {
-        BagCarousel hall = hallWith(-1);
+        BagCarousel hall = Halls.with(-1);
         int clear = hall.checkIn(0, 1, 0);
         hall.pass(3);
         due("without a chute of its flight a bag is missed", hall.missesOf(clear), 1);
@@ -505,7 +477,7 @@ public final class PromisesTest {
         due("with one it is read", hall.readFor(clear), 1);
         due("its misses stay", hall.missesOf(clear), 1);
 
-        BagCarousel smudged = hallWith(0);
+        BagCarousel smudged = Halls.with(0);
         int bag = smudged.checkIn(0, 1, 6);
         smudged.pass(14);
         due("missed once", smudged.missesOf(bag), 1);
@@ -519,7 +491,7 @@ public final class PromisesTest {
         smudged.pass(60);
         due("no more misses at the desk", smudged.missesOf(bag), 3);
 
-        BagCarousel gone = hallWith(2);
+        BagCarousel gone = Halls.with(2);
         int late = gone.checkIn(0, 1, 0);
         gone.depart(0);
         due("a bag of a gone flight is read and comes into its chute", gone.pass(9), 1);
@@ -528,7 +500,7 @@ public final class PromisesTest {
     }
 
     private static void promise11Ring() {
-        BagCarousel hall = hallWith(0);
+        BagCarousel hall = Halls.with(0);
         hall.setRoom(0, 1);
         int inside = hall.checkIn(0, 1, 0);
         int round = hall.checkIn(0, 1, 0);
@@ -547,7 +519,7 @@ public final class PromisesTest {
         hall.pass(12);
         due("what was read stays when it goes round", hall.readFor(round), 0);
 
-        BagCarousel desk = hallWith(-1);
+        BagCarousel desk = Halls.with(-1);
         for (int bag = 0; bag < 13; bag++) {
             desk.checkIn(0, 1, 0);
         }
@@ -564,7 +536,7 @@ public final class PromisesTest {
     }
 
     private static void promise11Chutes() {
-        BagCarousel hall = hallWith(0, 1, 2, 3);
+        BagCarousel hall = Halls.with(0, 1, 2, 3);
         hall.checkIn(3, 1, 0);
         hall.pass(2);
         hall.checkIn(2, 1, 0);
@@ -578,7 +550,7 @@ public final class PromisesTest {
             due("in chute " + chute, hall.chuteOf(3 - chute), chute);
         }
 
-        BagCarousel full = hallWith(1);
+        BagCarousel full = Halls.with(1);
         for (int bag = 0; bag < 6; bag++) {
             full.checkIn(0, 1, 0);
         }
@@ -590,7 +562,7 @@ public final class PromisesTest {
     }
 
     private static void promises12To19() {
-        BagCarousel hall = hallWith(1, 2);
+        BagCarousel hall = Halls.with(1, 2);
         int bag = hall.checkIn(1, 4, 3);
         due("flightOf", hall.flightOf(bag), 1);
         due("whereIs in line", hall.whereIs(bag), LINE);
@@ -619,7 +591,7 @@ public final class PromisesTest {
         due("chuteOf loaded", hall.chuteOf(bag), -1);
         due("readFor loaded", hall.readFor(bag), 2);
         due("flightOf loaded", hall.flightOf(bag), 1);
-        int missed = bringToDesk(hall, 0);
+        int missed = Halls.bringToDesk(hall, 0);
         due("missesOf at the desk", hall.missesOf(missed), 3);
         due("placeOf at the desk", hall.placeOf(missed), -1);
         due("chuteOf at the desk", hall.chuteOf(missed), -1);
@@ -629,7 +601,7 @@ public final class PromisesTest {
 
     private static void promises12To19NoSuchBag() {
         noSuchBag(new BagCarousel(), 0);
-        BagCarousel hall = hallWith(0);
+        BagCarousel hall = Halls.with(0);
         hall.checkIn(0, 1, 0);
         hall.checkIn(0, 1, 0);
         noSuchBag(hall, 2);
@@ -652,7 +624,7 @@ public final class PromisesTest {
     }
 
     private static void promise18() {
-        BagCarousel hall = hallWith(0);
+        BagCarousel hall = Halls.with(0);
         int bag = hall.checkIn(0, 1, 0);
         hall.pass(3);
         hall.giveChute(0, 1);
@@ -664,7 +636,7 @@ public final class PromisesTest {
         hall.sweep(0);
         due("at the desk", hall.isMisrouted(bag), false);
 
-        BagCarousel gone = hallWith(0);
+        BagCarousel gone = Halls.with(0);
         gone.setRoom(0, 1);
         int loaded = gone.checkIn(0, 1, 0);
         int late = gone.checkIn(0, 1, 0);
@@ -678,7 +650,7 @@ public final class PromisesTest {
     }
 
     private static void promise19() {
-        BagCarousel hall = hallWith(0, 1);
+        BagCarousel hall = Halls.with(0, 1);
         int bag = hall.checkIn(0, 8, 0);
         due("no file", hall.hasOpenFile(bag), false);
         hall.depart(0);
@@ -693,7 +665,7 @@ public final class PromisesTest {
     }
 
     private static void promise20() {
-        BagCarousel hall = hallWith(3);
+        BagCarousel hall = Halls.with(3);
         for (int bag = 0; bag < 4; bag++) {
             hall.checkIn(0, 1, 0);
         }
@@ -714,11 +686,11 @@ public final class PromisesTest {
     }
 
     private static void promises21To23() {
-        BagCarousel hall = hallWith(0, 0, 2);
-        bring(hall, 0);
-        bring(hall, 0);
-        bring(hall, 1);
-        bring(hall, 2);
+        BagCarousel hall = Halls.with(0, 0, 2);
+        Halls.bring(hall, 0);
+        Halls.bring(hall, 0);
+        Halls.bring(hall, 1);
+        Halls.bring(hall, 2);
         due("bagsIn 0", hall.bagsIn(0), 3);
         due("bagsIn 1", hall.bagsIn(1), 0);
         due("bagsIn 2", hall.bagsIn(2), 1);
@@ -740,7 +712,7 @@ public final class PromisesTest {
     }
 
     private static void promises24And25() {
-        BagCarousel hall = hallWith(-1, 2);
+        BagCarousel hall = Halls.with(-1, 2);
         due("chuteOfFlight without", hall.chuteOfFlight(0), -1);
         due("chuteOfFlight", hall.chuteOfFlight(1), 2);
         due("isGone", hall.isGone(1), false);
@@ -766,12 +738,12 @@ public final class PromisesTest {
     }
 
     private static void promises26And27() {
-        BagCarousel hall = hallWith(0, 0, -1);
+        BagCarousel hall = Halls.with(0, 0, -1);
         hall.setRoom(0, 2);
         due("readyOf without bags", hall.readyOf(0), 0);
         due("missingOf without bags", hall.missingOf(0), 0);
-        bring(hall, 0);
-        bring(hall, 1);
+        Halls.bring(hall, 0);
+        Halls.bring(hall, 1);
         hall.checkIn(0, 1, 0);
         hall.checkIn(0, 8, 0);
         hall.checkIn(2, 1, 0);
@@ -795,7 +767,7 @@ public final class PromisesTest {
     }
 
     private static void promises28To36() {
-        BagCarousel hall = hallWith(0, 1);
+        BagCarousel hall = Halls.with(0, 1);
         due("flights", hall.flights(), 2);
         hall.pass(7);
         due("minute", hall.minute(), 7);
@@ -833,7 +805,7 @@ public final class PromisesTest {
     }
 
     private static void promise37() {
-        BagCarousel hall = hallWith(0, 3, -1);
+        BagCarousel hall = Halls.with(0, 3, -1);
         int first = hall.checkIn(0, 1, 0);
         int second = hall.checkIn(1, 1, 0);
         int unread = hall.checkIn(2, 1, 0);
@@ -861,7 +833,7 @@ public final class PromisesTest {
     }
 
     private static void promise37Reader() {
-        BagCarousel hall = hallWith(1);
+        BagCarousel hall = Halls.with(1);
         int smudged = hall.checkIn(0, 1, 6);
         due("minutesUntilChute of a smudged one", hall.minutesUntilChute(smudged), -1);
         due("readyAfter with a smudged one", hall.readyAfter(0, 60), 0);
@@ -882,7 +854,7 @@ public final class PromisesTest {
     }
 
     private static void promise37Farthest() {
-        BagCarousel hall = hallWith(-1, 3);
+        BagCarousel hall = Halls.with(-1, 3);
         // Twelve unread ones at a time go round until each leaves for the desk, 36 minutes behind the twelve before.
         for (int bag = 0; bag < 36; bag++) {
             hall.checkIn(0, 1, 0);
@@ -902,7 +874,7 @@ public final class PromisesTest {
     }
 
     private static void promise38() {
-        BagCarousel hall = hallWith(0, 3);
+        BagCarousel hall = Halls.with(0, 3);
         hall.checkIn(0, 1, 0);
         hall.checkIn(0, 1, 0);
         hall.checkIn(1, 1, 0);
@@ -928,7 +900,7 @@ public final class PromisesTest {
     }
 
     private static void promise39() {
-        BagCarousel hall = hallWith(2, -1);
+        BagCarousel hall = Halls.with(2, -1);
         hall.checkIn(1, 1, 0);
         due("too few minutes: all are alike", hall.bestChute(1, 4), 0);
         due("the nearest chute", hall.bestChute(1, 5), 0);
@@ -953,8 +925,8 @@ public final class PromisesTest {
     }
 
     private static void promise39Chutes() {
-        BagCarousel hall = hallWith(3);
-        bring(hall, 0);
+        BagCarousel hall = Halls.with(3);
+        Halls.bring(hall, 0);
         due("the chute in which its bag is", hall.bestChute(0, 60), 3);
         hall.giveChute(0, 1);
         due("also when it has another now", hall.bestChute(0, 60), 3);
@@ -968,7 +940,7 @@ public final class PromisesTest {
     }
 
     private static void promise40() {
-        BagCarousel hall = hallWith(0, 1);
+        BagCarousel hall = Halls.with(0, 1);
         due("meanMisses without bags", hall.meanMisses(), 0.0);
         int missed = hall.checkIn(0, 1, 9);
         hall.checkIn(0, 1, 0);
